@@ -819,20 +819,15 @@ public final class MileLists {
                 row[j] = 2 * j;
             }
             for (int i = 0; i < from.size; i++) {
-                addLetter(from.letters[i], to);
+                int corner = row[0];
+                row[0] += 2;
+                for (int j = 1; j <= to.size; j++) {
+                    int swapped = corner + swapCost(from.letters[i], to.letters[j - 1]);
+                    corner = row[j];
+                    row[j] = Math.min(swapped, 2 + Math.min(row[j], row[j - 1]));
+                }
             }
             return row[to.size];
-        }
-
-        /** Takes the row on by one letter of the first NAME: it then counts that letter too. */
-        private void addLetter(int letter, Name to) {
-            int corner = row[0];
-            row[0] += 2;
-            for (int j = 1; j <= to.size; j++) {
-                int swapped = corner + swapCost(letter, to.letters[j - 1]);
-                corner = row[j];
-                row[j] = Math.min(swapped, 2 + Math.min(row[j], row[j - 1]));
-            }
         }
 
         private int swapCost(int a, int b) {

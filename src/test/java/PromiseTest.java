@@ -28,6 +28,7 @@ public final class PromiseTest {
         rivals();
         manyRivals();
         shared();
+        nothingShared();
         of();
         letter();
         count();
@@ -290,6 +291,11 @@ public final class PromiseTest {
             due("sound 1 " + wrong, x.sound(1, wrong), false);
         }
         due("equal and none", x.sound(26, 26), false);
+        x = new MileLists();
+        due("1 and 0", x.sound(1, 0), true);
+        due("1 and 0 again", x.sound(1, 0), false);
+        due("2 and 0", x.sound(2, 0), true);
+        due("1 and 2", x.sound(1, 2), false);
     }
 
     private static void costs() {
@@ -399,6 +405,19 @@ public final class PromiseTest {
         due("the least of three", x.reading(0, 0, 3), 4);
         x = withList("a XV b", 3, 2, 8, 2, 0, 5);
         due("one value by two ways", x.reading(0, 0, 20), 5);
+        x = withList("a X b XI c", 2, 3, 4, 0, 3, 6);
+        due("the only sign", x.reading(0, 0, 5), 4);
+        due("the first sign", x.reading(0, 1, 6), 4);
+        due("the first sign goes", x.reading(0, 1, 1), 6);
+        x = withList("a LLLLLLLI b XXXXXXXX c", 2, 1, 4, 1, 3, 5);
+        due("the eighth sign a greater one", x.reading(0, 0, 355), 4);
+        due("the eighth sign a lesser one", x.reading(0, 1, 71), 5);
+        // what a faulty text left behind is not read
+        x = new MileLists();
+        Checks.list(x, 2, "a LLLLLLLL ?");
+        Checks.list(x, 2, "a XI b");
+        x.habit(2, 1, 7);
+        due("nothing of an older text", x.reading(0, 0, 15), 7);
     }
 
     private static void readingEdges() {
@@ -573,6 +592,7 @@ public final class PromiseTest {
         x = withList("a LLLLLLI b");
         due("no placing", x.span(0, 0, 20, 0, 0), -1);
         due("no placing, the greatest", x.span(0, 0, 20, 1, 1), -1);
+        due("none but place 0", withList("a LLLLLL b").span(0, 0, 20, 0, 1), 0);
         x.habit(0, 1, 20);
         due("one by a habit", x.span(0, 0, 0, 1, 1), 600);
     }
@@ -596,6 +616,16 @@ public final class PromiseTest {
         due("one value twice", x.rivals(0, 0, 2), 599);
         due("from the lesser cost on", x.rivals(0, 0, 3), 599 + 597);
         due("not twice", x.rivals(0, 0, 20), 599 + 597);
+        x = withList("a I b", 1, 0, 20, 3, 0, 19);
+        due("within 18", x.rivals(0, 0, 18), 599);
+        due("within 19", x.rivals(0, 0, 19), 599 + 579);
+        due("within 20", x.rivals(0, 0, 20), 599 + 597 + 579);
+        // a ruin makes good for just what the longer way costs: two of the least
+        x = withList("aaaaa I bbbbb I ccccc", 2, 0, 10);
+        Checks.ruin(x, 0, "aaaaa");
+        Checks.ruin(x, 14, "ccccc");
+        due("a tie by costs", x.best(0, 0), 20);
+        due("both ways to it, and the short one", x.rivals(0, 0, 0), 4);
     }
 
     private static void manyRivals() {
@@ -647,6 +677,35 @@ public final class PromiseTest {
         due("other values, other units", x.shared(0, 1, 0), 1);
         due("one has no placing", x.shared(0, 2, 0), 0);
         due("the other has none", x.shared(2, 1, 0), 0);
+    }
+
+    /** Lists that all read their one numeral otherwise, but share none of it. */
+    private static void notShared(String first, String second, int... ostia) {
+        MileLists x = new MileLists();
+        Checks.list(x, 2, first);
+        Checks.list(x, 2, second);
+        x.costs(50, 6);
+        x.habit(1, 0, 2);
+        x.habit(0, 1, 3);
+        Checks.ruin(x, 100, "roma");
+        Checks.ruin(x, 104, "velia");
+        Checks.ruin(x, 122, "portus");
+        for (int at : ostia) {
+            Checks.ruin(x, at, "ostia");
+        }
+        due(first + " by a habit", x.best(0, 0) >= 2 && x.best(0, 0) <= 3, true);
+        due(second + " by a habit", x.best(1, 0) >= 2 && x.best(1, 0) <= 3, true);
+        due(first + " and " + second, x.shared(0, 1, 0), 0);
+        due(second + " and " + first, x.shared(1, 0, 0), 0);
+    }
+
+    private static void nothingShared() {
+        CHECKS.part("18 nothing shared");
+        notShared("roma XII ostia", "roma XI ostia", 126, 120);
+        notShared("roma XI ostia", "roma VI ostia", 120, 114);
+        notShared("roma XI ostia", "roma XV ostia", 120, 132);
+        notShared("roma XII ostia", "roma XII portus", 126);
+        notShared("roma XII ostia", "velia XII ostia", 126);
     }
 
     private static void of() {

@@ -75,4 +75,14 @@ final class Checks {
         type(x, name);
         return x.apart(list, station);
     }
+
+    /** A new object with a list of UNIT 2, and habits: of each the true SIGN, the written SIGN and the COST. */
+    static MileLists withList(String text, int... habits) {
+        MileLists x = new MileLists();
+        list(x, 2, text);
+        for (int i = 0; i + 2 < habits.length; i += 3) {
+            x.habit(habits[i], habits[i + 1], habits[i + 2]);
+        }
+        return x;
+    }
 }

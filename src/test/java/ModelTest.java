@@ -1,7 +1,10 @@
 import java.util.NoSuchElementException;
 import java.util.Random;
 
-/** Runs of calls by chance (the same each time), each answer held against Reference. */
+/**
+ * Runs of calls by chance (the same each time), each answer held against Reference. What to ask next is
+ * chosen by the Reference: an object may be used for no more than 512 calls, and those are all held against it.
+ */
 public final class ModelTest {
     private static final int RUNS = 300;
     private static final int CALLS = 512;
@@ -59,19 +62,19 @@ public final class ModelTest {
         while (calls < CALLS - 16) {
             int kind = chance.nextInt(30);
             if (kind < 3) {
-                if (x.count(0) < 4 || chance.nextInt(20) == 0) {
+                if (y.count(0) < 4 || chance.nextInt(20) == 0) {
                     list();
                 }
             } else if (kind < 6) {
-                if (x.count(1) < findsWanted || chance.nextInt(20) == 0) {
+                if (y.count(1) < findsWanted || chance.nextInt(20) == 0) {
                     ruin();
                 }
             } else if (kind < 8) {
-                if (x.count(2) < findsWanted || chance.nextInt(20) == 0) {
+                if (y.count(2) < findsWanted || chance.nextInt(20) == 0) {
                     stone();
                 }
             } else if (kind < 10) {
-                if (x.count(3) < habitsWanted || chance.nextInt(30) == 0) {
+                if (y.count(3) < habitsWanted || chance.nextInt(30) == 0) {
                     habit();
                 }
             } else {
@@ -110,16 +113,16 @@ public final class ModelTest {
 
     private int pickDay() {
         return chance.nextInt(40) == 0 ? WILD[chance.nextInt(WILD.length)]
-            : chance.nextInt(20) == 0 ? x.count(4) + 1
-            : chance.nextBoolean() ? x.count(4) : chance.nextInt(x.count(4) + 1);
+            : chance.nextInt(20) == 0 ? y.count(4) + 1
+            : chance.nextBoolean() ? y.count(4) : chance.nextInt(y.count(4) + 1);
     }
 
     private int pickList() {
-        return pick(chance.nextInt(8) == 0 ? 5 : Math.max(1, x.count(0)));
+        return pick(chance.nextInt(8) == 0 ? 5 : Math.max(1, y.count(0)));
     }
 
     private int pickStation(int list) {
-        int bound = list >= 0 && list < x.count(0) ? x.of(list, 1) : 3;
+        int bound = list >= 0 && list < y.count(0) ? y.of(list, 1) : 3;
         return chance.nextInt(30) == 0 ? bound : chance.nextInt(30) == 0 ? bound - 1 : pick(bound);
     }
 
@@ -274,9 +277,9 @@ public final class ModelTest {
         int list = pickList();
         int station = pickStation(list);
         int v = pick(30);
-        boolean near = chance.nextInt(3) > 0 && station >= 0 && station < 9;
-        if (near && Checks.ofThrows(x, list, 10 + station) == 0) {
-            v = x.of(list, 10 + station) + new int[] {0, 1, -1, 4, -4, 5, -5, 9, -9, 10, -10, 40, -40, 50}[chance.nextInt(14)];
+        boolean numeral = list >= 0 && list < y.count(0) && station >= 0 && station < y.of(list, 1) - 1;
+        if (chance.nextInt(3) > 0 && numeral) {
+            v = y.of(list, 10 + station) + new int[] {0, 1, -1, 4, -4, 5, -5, 9, -9, 10, -10, 40, -40, 50}[chance.nextInt(14)];
         }
         due("reading " + list + " " + station + " " + v, x.reading(list, station, v), y.reading(list, station, v));
     }

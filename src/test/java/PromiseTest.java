@@ -370,46 +370,37 @@ public final class PromiseTest {
         due("tape empty behind no name", x.count(5), 0);
     }
 
-    private static MileLists withList(String text, int... habits) {
-        MileLists x = new MileLists();
-        Checks.list(x, 2, text);
-        for (int i = 0; i + 2 < habits.length; i += 3) {
-            x.habit(habits[i], habits[i + 1], habits[i + 2]);
-        }
-        return x;
-    }
-
     private static void readingByHabits() {
         CHECKS.part("13 reading");
-        MileLists x = withList("a XII b VII c LXV d", 3, 1, 4);
+        MileLists x = Checks.withList("a XII b VII c LXV d", 3, 1, 4);
         due("itself", x.reading(0, 0, 12), 0);
         due("the first I an X", x.reading(0, 0, 21), 4);
         due("not two", x.reading(0, 0, 30), -1);
         due("no X behind a V", x.reading(0, 1, 16), -1);
-        x = withList("a LXV b LXI c LXX d", 1, 3, 7);
+        x = Checks.withList("a LXV b LXI c LXX d", 1, 3, 7);
         due("no I ahead of a V", x.reading(0, 0, 56), -1);
         due("I ahead of I", x.reading(0, 1, 52), 7);
         due("the last X an I", x.reading(0, 2, 61), 7);
-        x = withList("a XI b I c VV d", 0, 1, 3, 0, 2, 5);
+        x = Checks.withList("a XI b I c VV d", 0, 1, 3, 0, 2, 5);
         due("an I goes", x.reading(0, 0, 10), 3);
         due("one at least", x.reading(0, 1, 0), -1);
         due("a V goes", x.reading(0, 2, 5), 5);
         due("not both", x.reading(0, 2, 0), -1);
-        x = withList("a XI b LLLLLLLL c", 2, 0, 9, 4, 0, 2);
+        x = Checks.withList("a XI b LLLLLLLL c", 2, 0, 9, 4, 0, 2);
         due("a V comes", x.reading(0, 0, 16), 9);
         due("an L comes", x.reading(0, 0, 61), 2);
         due("once alone", x.reading(0, 0, 21), -1);
         due("nine signs", x.reading(0, 1, 450), 2);
         due("nine signs with a V", x.reading(0, 1, 405), 9);
-        x = withList("a II b", 1, 0, 9, 1, 0, 4, 1, 0, 6);
+        x = Checks.withList("a II b", 1, 0, 9, 1, 0, 4, 1, 0, 6);
         due("the least of three", x.reading(0, 0, 3), 4);
-        x = withList("a XV b", 3, 2, 8, 2, 0, 5);
+        x = Checks.withList("a XV b", 3, 2, 8, 2, 0, 5);
         due("one value by two ways", x.reading(0, 0, 20), 5);
-        x = withList("a X b XI c", 2, 3, 4, 0, 3, 6);
+        x = Checks.withList("a X b XI c", 2, 3, 4, 0, 3, 6);
         due("the only sign", x.reading(0, 0, 5), 4);
         due("the first sign", x.reading(0, 1, 6), 4);
         due("the first sign goes", x.reading(0, 1, 1), 6);
-        x = withList("a LLLLLLLI b XXXXXXXX c", 2, 1, 4, 1, 3, 5);
+        x = Checks.withList("a LLLLLLLI b XXXXXXXX c", 2, 1, 4, 1, 3, 5);
         due("the eighth sign a greater one", x.reading(0, 0, 355), 4);
         due("the eighth sign a lesser one", x.reading(0, 1, 71), 5);
         // what a faulty text left behind is not read
@@ -422,7 +413,7 @@ public final class PromiseTest {
 
     private static void readingEdges() {
         CHECKS.part("13 reading refused");
-        MileLists x = withList("a XII b", 1, 0, 4);
+        MileLists x = Checks.withList("a XII b", 1, 0, 4);
         due("no numeral behind the last", x.reading(0, 1, 12), -1);
         due("no station 2", x.reading(0, 2, 12), -1);
         due("no station -1", x.reading(0, -1, 12), -1);
@@ -433,14 +424,14 @@ public final class PromiseTest {
             due("value " + v, x.reading(0, 0, v), -1);
         }
         due("13", x.reading(0, 0, 13), 4);
-        x = withList("aIbIcIdIeIfIgIhIiIIIj");
+        x = Checks.withList("aIbIcIdIeIfIgIhIiIIIj");
         due("the ninth", x.reading(0, 8, 3), 0);
         due("no tenth", x.reading(0, 9, 3), -1);
     }
 
     private static void best() {
         CHECKS.part("14 best");
-        MileLists x = withList("roma XII ostia V portus");
+        MileLists x = Checks.withList("roma XII ostia V portus");
         due("all lost", x.best(0, 0), 30);
         Checks.ruin(x, 100, "roma");
         due("one found", x.best(0, 0), 20);
@@ -457,9 +448,9 @@ public final class PromiseTest {
         for (int[] wrong : new int[][] {{1, 0}, {-1, 0}, {0, 1}, {0, -1}, {LOW, 0}, {HIGH, 0}, {0, LOW}, {0, HIGH}}) {
             due("best " + wrong[0] + " " + wrong[1], x.best(wrong[0], wrong[1]), -1);
         }
-        x = withList("a LLLLLL b");
+        x = Checks.withList("a LLLLLL b");
         due("just as long as the road", x.best(0, 0), 20);
-        x = withList("a LLLLLLI b");
+        x = Checks.withList("a LLLLLLI b");
         due("no placing", x.best(0, 0), -2);
         due("no such day all the same", x.best(0, 1), -1);
         x.habit(0, 1, 20);
@@ -470,14 +461,14 @@ public final class PromiseTest {
         Checks.list(x, 3, "a LLLLI b");
         due("too long with unit 3", x.best(1, 0), -2);
         // a ruin of quite another name may cost more than to be lost
-        x = withList("abcdefgh LLLLLL b");
+        x = Checks.withList("abcdefgh LLLLLL b");
         Checks.ruin(x, 0, "ijklmnop");
         due("a wrong ruin is not lost", x.best(0, 0), 34);
     }
 
     private static void bestWithStones() {
         CHECKS.part("14 best with stones");
-        MileLists x = withList("a LLLLLL b");
+        MileLists x = Checks.withList("a LLLLLL b");
         Checks.stone(x, 10, 5, 2, "a");
         due("behind it", x.best(0, 0), 20);
         Checks.stone(x, 10, 4, 2, "a");
@@ -495,7 +486,7 @@ public final class PromiseTest {
         due("moved counts for each", x.best(0, 0), 120);
         Checks.ruin(x, 0, "a");
         due("ruin and stones", x.best(0, 0), 110);
-        x = withList("a I b");
+        x = Checks.withList("a I b");
         Checks.stone(x, 0, 200, 3, "b");
         due("stones draw a list", x.best(0, 0), 20);
         due("to their place", x.at(0, 0, 1), 600);
@@ -503,7 +494,7 @@ public final class PromiseTest {
 
     private static void bestAsKnownThen() {
         CHECKS.part("14 best on a day");
-        MileLists x = withList("a I b");
+        MileLists x = Checks.withList("a I b");
         x.day(3);
         Checks.ruin(x, 100, "a");
         Checks.stone(x, 100, 1, 2, "b");
@@ -525,7 +516,7 @@ public final class PromiseTest {
 
     private static void at() {
         CHECKS.part("15 at");
-        MileLists x = withList("a II b II c");
+        MileLists x = Checks.withList("a II b II c");
         for (int s = 0; s < 3; s++) {
             due("the first row, station " + s, x.at(0, 0, s), 4 * s);
         }
@@ -544,13 +535,13 @@ public final class PromiseTest {
         Checks.stone(x, 16, 2, 2, "c");
         due("c stays", x.at(0, 0, 2), 18);
         // two ways to the same end: the one with the lesser second place
-        x = withList("a II b II c", 1, 0, 1);
+        x = Checks.withList("a II b II c", 1, 0, 1);
         Checks.ruin(x, 0, "a");
         Checks.ruin(x, 10, "c");
         due("one of two is a mile longer", x.best(0, 0), 11);
         due("the later one", x.at(0, 0, 1), 4);
         due("c there", x.at(0, 0, 2), 10);
-        x = withList("a II b II c", 0, 1, 1);
+        x = Checks.withList("a II b II c", 0, 1, 1);
         Checks.ruin(x, 0, "a");
         Checks.ruin(x, 6, "c");
         due("the earlier one is shorter", x.at(0, 0, 1), 2);
@@ -558,13 +549,13 @@ public final class PromiseTest {
         for (int[] w : wrong) {
             due("at " + w[0] + " " + w[1] + " " + w[2], x.at(w[0], w[1], w[2]), -1);
         }
-        x = withList("a LLLLLLI b");
+        x = Checks.withList("a LLLLLLI b");
         due("no placing", x.at(0, 0, 0), -1);
     }
 
     /** One ruin, for the middle station, and habits for a mile more (2) and a mile less (3). */
     private static MileLists aroundOneRuin() {
-        MileLists x = withList("aaaaa II bbbbb II ccccc", 1, 0, 2, 0, 1, 3);
+        MileLists x = Checks.withList("aaaaa II bbbbb II ccccc", 1, 0, 2, 0, 1, 3);
         Checks.ruin(x, 100, "bbbbb");
         return x;
     }
@@ -589,10 +580,10 @@ public final class PromiseTest {
         for (int[] w : wrong) {
             due("span " + java.util.Arrays.toString(w), x.span(w[0], w[1], w[2], w[3], w[4]), -1);
         }
-        x = withList("a LLLLLLI b");
+        x = Checks.withList("a LLLLLLI b");
         due("no placing", x.span(0, 0, 20, 0, 0), -1);
         due("no placing, the greatest", x.span(0, 0, 20, 1, 1), -1);
-        due("none but place 0", withList("a LLLLLL b").span(0, 0, 20, 0, 1), 0);
+        due("none but place 0", Checks.withList("a LLLLLL b").span(0, 0, 20, 0, 1), 0);
         x.habit(0, 1, 20);
         due("one by a habit", x.span(0, 0, 0, 1, 1), 600);
     }
@@ -609,19 +600,19 @@ public final class PromiseTest {
         for (int[] w : wrong) {
             due("rivals " + w[0] + " " + w[1] + " " + w[2], x.rivals(w[0], w[1], w[2]), -1);
         }
-        x = withList("a LLLLLLI b");
+        x = Checks.withList("a LLLLLLI b");
         due("no placing", x.rivals(0, 0, 0), -1);
         // two habits for one value are one placing, by the lesser cost
-        x = withList("a I b", 1, 0, 3, 1, 0, 5);
+        x = Checks.withList("a I b", 1, 0, 3, 1, 0, 5);
         due("one value twice", x.rivals(0, 0, 2), 599);
         due("from the lesser cost on", x.rivals(0, 0, 3), 599 + 597);
         due("not twice", x.rivals(0, 0, 20), 599 + 597);
-        x = withList("a I b", 1, 0, 20, 3, 0, 19);
+        x = Checks.withList("a I b", 1, 0, 20, 3, 0, 19);
         due("within 18", x.rivals(0, 0, 18), 599);
         due("within 19", x.rivals(0, 0, 19), 599 + 579);
         due("within 20", x.rivals(0, 0, 20), 599 + 597 + 579);
         // a ruin makes good for just what the longer way costs: two of the least
-        x = withList("aaaaa I bbbbb I ccccc", 2, 0, 10);
+        x = Checks.withList("aaaaa I bbbbb I ccccc", 2, 0, 10);
         Checks.ruin(x, 0, "aaaaa");
         Checks.ruin(x, 14, "ccccc");
         due("a tie by costs", x.best(0, 0), 20);
@@ -630,7 +621,7 @@ public final class PromiseTest {
 
     private static void manyRivals() {
         CHECKS.part("17 many rivals");
-        MileLists x = withList("aIbIcIdIeIfIgIhIiIj", 1, 0, 1, 2, 0, 1, 3, 0, 1);
+        MileLists x = Checks.withList("aIbIcIdIeIfIgIhIiIj", 1, 0, 1, 2, 0, 1, 3, 0, 1);
         x.costs(0, 0);
         due("within 0", x.rivals(0, 0, 0), 583);
         due("within 1", x.rivals(0, 0, 1), 16036);

@@ -721,15 +721,11 @@ public final class MileLists {
             return size - 1;
         }
 
-        /** The VALUE that a NUMERAL has if habit h was at work in it; NONE if it can't have been. */
-        int valueBy(int h, Numeral numeral) {
-            if (h < 0 || h >= size || !worksIn(h, numeral)) {
-                return NONE;
+        /** Whether HABIT h leads from a written NUMERAL to a true one. */
+        boolean worksIn(int h, Numeral numeral) {
+            if (h < 0 || h >= size) {
+                return false;
             }
-            return numeral.value() - SIGN_VALUES[written[h]] + SIGN_VALUES[truly[h]];
-        }
-
-        private boolean worksIn(int h, Numeral numeral) {
             if (written[h] == 0) {
                 return true;
             }
@@ -737,6 +733,11 @@ public final class MileLists {
                 return numeral.size > 1 && numeral.holds(written[h]);
             }
             return numeral.canSwap(written[h], truly[h]);
+        }
+
+        /** How much more the true NUMERAL is than the written one (below 0: less). */
+        int gainBy(int h) {
+            return h >= 0 && h < size ? SIGN_VALUES[truly[h]] - SIGN_VALUES[written[h]] : 0;
         }
     }
 
@@ -748,11 +749,11 @@ public final class MileLists {
 
         void gather(Numeral numeral, Habits habits) {
             size = 0;
-            put(numeral.value(), 0);
+            int plain = numeral.value();
+            put(plain, 0);
             for (int h = 0; h < habits.size; h++) {
-                int value = habits.valueBy(h, numeral);
-                if (value != NONE) {
-                    put(value, habits.costs[h]);
+                if (habits.worksIn(h, numeral)) {
+                    put(plain + habits.gainBy(h), habits.costs[h]);
                 }
             }
         }

@@ -9,6 +9,7 @@ final class EdgesOfTexts extends EdgePart {
 
     @Override
     void run() {
+        wholeLife();
         road();
         days();
         signs();
@@ -55,6 +56,33 @@ final class EdgesOfTexts extends EdgePart {
             text.append('I').append((char) ('a' + i));
         }
         return text.toString();
+    }
+
+    private void wholeLife() {
+        edges.sentence("What it is", "An object is used for at most 512 calls after it has been made");
+        MileLists x = new MileLists();
+        MileLists other = withList(3, "b I c");
+        int calls = 0;
+        while (calls < 60) {
+            due("feed", x.feed(0x61204920, 0x62202020, 0x20202020, 0x20202020, 0x20202020), 20);
+            due("end", x.end(5), 5);
+            due("list", x.list(2), calls < 12 ? calls / 3 : -1);
+            due("end", calls < 12 ? 0 : x.end(0), 0);
+            calls += calls < 12 ? 3 : 4;
+        }
+        while (calls < 508) {
+            calls += 4;
+            due("day, before call " + calls, x.day(1), (calls - 60) / 4);
+            due("best, before call " + calls, x.best(calls % 3, (calls - 60) / 4), 20);
+            due("rivals, before call " + calls, x.rivals(3, 0, calls % 21), 599);
+            due("costs, call " + calls, x.costs(10, calls % 51), true);
+        }
+        due("call 509", x.best(0, 112), 20);
+        due("call 510", x.at(0, 112, 1), 2);
+        due("call 511", x.count(4), 112);
+        due("call 512", x.span(3, 112, 0, 0, 1), 598);
+        due("another room has its own day", other.count(4), 0);
+        due("and its own lists", other.count(0), 1);
     }
 
     private void road() {

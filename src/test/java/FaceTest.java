@@ -22,10 +22,31 @@ public final class FaceTest {
         "int count(int)"};
 
     public static void main(String[] args) throws Exception {
+        documentFace(Path.of("..", "shared", "DOC.md"));
         members();
         nestedClasses();
         source(Files.readString(Path.of("src/main/java/MileLists.java")));
         CHECKS.finish();
+    }
+
+    /** That FACE is what the document shows under its heading; where there is none to be read, FACE alone counts. */
+    private static void documentFace(Path path) throws Exception {
+        if (!Files.isReadable(path)) {
+            return;
+        }
+        CHECKS.part("the document's face");
+        String shown = Files.readString(path).split("## The public face", 2)[1].split("\n## ", 2)[0];
+        Set<String> methods = new TreeSet<>();
+        Matcher line = Pattern.compile("(?m)^    public (\\w+ \\w+)\\((.*)\\)( throws \\w+)?;$").matcher(shown);
+        while (line.find()) {
+            String throwing = line.group(3) == null ? "" : line.group(3);
+            methods.add(line.group(1) + "(" + line.group(2).replaceAll("(\\w+) \\w+", "$1") + ")" + throwing);
+        }
+        CHECKS.due("methods " + methods, methods.equals(new TreeSet<>(Arrays.asList(FACE))), true);
+        int others = shown.split("(?m)^    public ", -1).length - 1 - methods.size();
+        CHECKS.due("members beside methods (NONE and the constructor)", others, 2);
+        CHECKS.due("NONE", shown.contains("public static final int NONE = " + MileLists.NONE + ";"), true);
+        CHECKS.due("the constructor", shown.contains("public MileLists();"), true);
     }
 
     private static void members() {
